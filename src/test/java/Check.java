@@ -102,6 +102,14 @@ final class Check {
         return lift;
     }
 
+    /** An object without passengers in which a script was played and undone. */
+    static LiftScheduler undone(String script) {
+        LiftScheduler lift = new LiftScheduler();
+        play(lift, script);
+        lift.undo();
+        return lift;
+    }
+
     static int play(LiftScheduler lift, String script) {
         type(lift, script);
         return lift.play();

@@ -95,6 +95,8 @@ public final class InputTest {
         lift.save(0);
         lift.save(1);
         lift.writeStatus();
+        Check.play(lift, "call 9 0; run 20; call 1 2; reverse;");
+        Check.same("ticksToFinish before", lift.ticksToFinish(), 4);
         Check.type(lift, "lift 5 2 first;");
         Check.same("load", lift.load(), 0);
         Check.same("replaced", Check.state(lift), "5 2 0 0 0 true 0 0 0 0:");
@@ -131,8 +133,12 @@ public final class InputTest {
         Check.same("played", Check.state(lift),
                 "6 2 2 3 2 true 2 1 0 0: 2>4@0/2/-1 5>0@9/-1/-1");
         Check.same("the buffer is empty", lift.truncate(1), false);
+        lift.run(2);
+        lift.addPassenger(0, 1, 77);
         Check.same("repeated commands", Check.play(lift,
-                "repeat 3 (reverse; run 1;); repeat 9 (); policy first;"), 7);
+                "expect time 5; repeat 3 (reverse; run 1;); repeat 9 (); policy first;"), 8);
+        Check.same("played after other changes", Check.state(lift),
+                "6 2 0 8 4 false 4 2 2 0: 2>4@0/2/5 5>0@9/-1/-1 0>1@77/-1/-1");
         Check.wrongArgument("a text is no script", () -> Check.play(lift, HEAD));
         Check.same("error", lift.parseError(), 1);
         Check.same("position", lift.parseErrorPosition(), 0);
@@ -140,7 +146,7 @@ public final class InputTest {
         Check.wrongArgument("failing script", () -> Check.play(lift, "run 1; call 0 2; run x;"));
         Check.same("state stays", Check.state(lift), before);
         Check.same("the buffer is empty again", lift.truncate(1), false);
-        Check.same("only two changes", lift.undoDepth(), 2);
+        Check.same("only four changes", lift.undoDepth(), 4);
     }
 
     private static void playIsOneChange() {
@@ -164,6 +170,10 @@ public final class InputTest {
         Check.same("leading zeros", Check.state(Check.loaded("lift 010 004 sweep;call 00 001;")),
                 "10 4 2 0 0 true 0 0 0 0: 0>1@0/-1/-1");
         errorOf("words run together", "lift 10 4 sweep;call 2 4 at5;runs 3;", 1, 29);
+        errorOf("a word that is none", "lift 10 4 sweepz;", 1, 10);
+        errorOf("a word that is none before", "alift 10 4 sweep;", 1, 0);
+        errorOf("500 tokens", ";".repeat(500), 1, 0);
+        errorOf("500 tokens behind each other", HEAD + "run1;".repeat(96) + "();(", 1, 496);
         errorOf("word in two", "li ft 10 4 sweep;", 1, 0);
         errorOf("number in two", "lift 1 0 4 sweep;", 2, 5);
         errorOf("carriage return", "lift 10 4 sweep;\r", 1, 16);

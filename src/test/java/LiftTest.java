@@ -13,6 +13,7 @@ public final class LiftTest {
         stops();
         targetsOfPolicies();
         targetsOfSweep();
+        targetsOfNobody();
         wrongPolicies();
         ticks();
         doorTickOfFullLift();
@@ -133,14 +134,29 @@ public final class LiftTest {
     }
 
     private static void targetsOfSweep() {
-        LiftScheduler lift = Check.loaded("lift 10 4 sweep; call 5 0; run 6; ");
-        Check.same("it would turn", lift.targetBy(SWEEP), 0);
+        LiftScheduler lift = Check.loaded("lift 10 4 sweep; call 5 2; run 6; ");
+        Check.same("it would turn", lift.targetBy(SWEEP), 2);
+        Check.same("only below, nearest", lift.targetBy(NEAREST), 2);
         Check.same("asking does not turn", lift.isUpward(), true);
         Check.same("asking is no reversal", lift.reversals(), 0);
         Check.same("asking is no change", lift.undoDepth(), 0);
         lift = Check.loaded("lift 10 4 first; reverse; call 3 0; call 2 0;");
         Check.same("it would turn upwards", lift.targetBy(SWEEP), 2);
         Check.same("asking does not turn upwards", lift.isUpward(), false);
+    }
+
+    private static void targetsOfNobody() {
+        LiftScheduler waited = Check.undone("call 5 6; run 1;");
+        LiftScheduler rode = Check.undone("call 0 6; run 1;");
+        Check.same("no stop of an undone call", waited.stopMask(), 0);
+        Check.same("no stop of an undone ride", rode.stopMask(), 0);
+        // The undone ride must not be taken for one: nobody rides, one waits.
+        rode.addPassenger(3, 4, 0);
+        Check.same("first: who waits", rode.targetBy(FIRST), 3);
+        LiftScheduler both = Check.loaded("lift 10 4 first; call 5 9;");
+        Check.play(both, "call 1 7; run 2;");
+        both.undo();
+        Check.same("first: not who rode before undo", both.targetBy(FIRST), 5);
     }
 
     private static void wrongPolicies() {

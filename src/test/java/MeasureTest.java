@@ -22,6 +22,7 @@ public final class MeasureTest {
         capacities();
         expected();
         beyondTheLastTime();
+        undonePassengers();
         forecastsChangeNothing();
         wrongInputs();
         Check.end();
@@ -141,7 +142,10 @@ public final class MeasureTest {
         Check.same("nearest is best", Check.loaded(NEAREST_IS_BEST).bestPolicy(), 1);
         Check.same("sweep is best", Check.loaded(SWEEP_IS_BEST).bestPolicy(), 2);
         Check.same("the lowest of three", new LiftScheduler().bestPolicy(), 0);
-        // First and nearest wait 46 and 44, sweep 44 too.
+        // The waits of the policies are 37, 23 and 36.
+        Check.same("sweep is not worst", Check.loaded("lift 10 2 sweep; call 0 4; finish;"
+                + "call 2 5; call 0 5; call 9 7;").bestPolicy(), 1);
+        // First and nearest wait 44 and 46, sweep 44 too.
         LiftScheduler two = Check.loaded("lift 20 1 first; call 10 11; finish;"
                 + "call 19 0; call 9 12; call 13 8;");
         Check.same("first and sweep are equal", two.waitWithPolicy(0) - two.waitWithPolicy(2), 0);
@@ -193,6 +197,21 @@ public final class MeasureTest {
         Check.same("longestWaitWithPolicy at 999", lift.longestWaitWithPolicy(1), 56);
         Check.same("time stays", lift.time(), 999);
         Check.same("it is not finished", lift.isFinished(), false);
+    }
+
+    /** Rows of passengers who are undone must not be read. */
+    private static void undonePassengers() {
+        LiftScheduler lift = Check.undone("call 5 6; finish;");
+        Check.same("totalRide", lift.totalRide(), 0);
+        Check.same("longestRide", lift.longestRide(), 0);
+        Check.same("lastDone", lift.lastDone(), NONE);
+        Check.same("totalWait", lift.totalWait(), 0);
+        Check.same("longestWait", lift.longestWait(), 0);
+        Check.same("meanWait", lift.meanWait(), 0.0);
+        Check.same("isFinished", lift.isFinished(), true);
+        Check.same("waitWithPolicy", lift.waitWithPolicy(1), 0);
+        Check.same("longestWaitWithPolicy", lift.longestWaitWithPolicy(1), 0);
+        Check.same("ticksToFinish", lift.ticksToFinish(), 0);
     }
 
     private static void forecastsChangeNothing() {

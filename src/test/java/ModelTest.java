@@ -61,9 +61,10 @@ public final class ModelTest {
                 typeAndRead(random.nextInt(6) == 0 ? "load" : "play",
                         random.nextInt(5) == 0 ? text() : script());
             } else {
-                for (int i = 0; i < 8; i++) {
+                for (int i = 0; i < 5; i++) {
                     askAny();
                 }
+                askSensibly();
             }
         }
     }
@@ -72,12 +73,14 @@ public final class ModelTest {
         switch (random.nextInt(8)) {
             case 0:
                 ask("undo");
+                askState();
                 break;
             case 1:
                 ask("save", random.nextInt(2));
                 break;
             case 2:
                 ask("restore", random.nextInt(2));
+                askState();
                 break;
             case 3:
                 ask("runToEnd");
@@ -108,6 +111,36 @@ public final class ModelTest {
         int floors = model.floorCount();
         int arrival = model.time() + (random.nextBoolean() ? 0 : random.nextInt(60));
         ask("addPassenger", random.nextInt(floors), random.nextInt(floors), arrival);
+    }
+
+    /** Asks with arguments that are in range, as far as there are such. */
+    private void askSensibly() {
+        int floors = model.floorCount();
+        int passengers = Math.max(1, model.passengerCount());
+        String[] ofPassenger = {"statusOf", "boardedAt", "leftAt", "waitOf", "rideOf", "detourOf",
+            "expectedAt"};
+        String[] ofFloor = {"waitingAt", "ridingTo"};
+        String[] ofPolicy = {"targetBy", "ticksWithPolicy", "waitWithPolicy",
+            "longestWaitWithPolicy"};
+        ask(ofPassenger[random.nextInt(7)], random.nextInt(passengers));
+        ask(ofFloor[random.nextInt(2)], random.nextInt(floors));
+        ask(ofPolicy[random.nextInt(4)], random.nextInt(3));
+        ask("queueAt", random.nextInt(floors), random.nextInt(3));
+        int first = model.firstWaiting();
+        if (first != -1) {
+            ask("queueAt", model.originOf(first), random.nextInt(2));
+        }
+        ask("countStatus", random.nextInt(4));
+    }
+
+    /** Compares what has no arguments and changes nothing: most of the state. */
+    private void askState() {
+        for (Method method : methods) {
+            if (method.getParameterCount() == 0
+                    && !method.getName().matches("load|play|runToEnd|undo|write.*")) {
+                ask(method.getName());
+            }
+        }
     }
 
     private void askAny() {
@@ -143,6 +176,9 @@ public final class ModelTest {
         ask(method);
         ask("parseError");
         ask("parseErrorPosition");
+        if (random.nextInt(3) == 0) {
+            askState();
+        }
     }
 
     private String text() {

@@ -24,6 +24,7 @@ public final class PassengerTest {
         origins();
         between();
         arrivals();
+        undonePassengers();
         noSuchFloor();
         Check.end();
     }
@@ -141,6 +142,8 @@ public final class PassengerTest {
     private static void queues() {
         LiftScheduler lift = Check.loaded(QUEUE);
         Check.same("firstWaiting at 0", lift.firstWaiting(), 0);
+        Check.same("queue of floor 0 at 0", lift.queueAt(0, 0), 0);
+        Check.same("only one", lift.queueAt(0, 1), NONE);
         lift.run(1);
         Check.same("firstWaiting at 1", lift.firstWaiting(), 4);
         Check.same("nobody waits at 2 yet", lift.waitingAt(2), 0);
@@ -167,6 +170,10 @@ public final class PassengerTest {
         Check.same("boarding in queue order", answersOf(5, lift::boardedAt), "0 64 42 52 36 ");
         Check.same("nobody waits at the end", lift.firstWaiting(), NONE);
         Check.same("nobody at all", new LiftScheduler().firstWaiting(), NONE);
+        LiftScheduler absent = Check.loaded("lift 10 4 sweep; call 5 6 at 4; call 5 6 at 3;");
+        Check.same("nobody yet", absent.firstWaiting(), NONE);
+        absent.run(3);
+        Check.same("the earlier one", absent.firstWaiting(), 1);
     }
 
     private static void ridersTo() {
@@ -212,6 +219,31 @@ public final class PassengerTest {
         Check.same("nextArrival at 9", lift.nextArrival(), NONE);
         Check.same("nextArrival of nobody", new LiftScheduler().nextArrival(), NONE);
         Check.same("last arrival", Check.loaded("lift 9 1 first; call 1 2 at 999;").nextArrival(), 999);
+    }
+
+    /** Rows of passengers who are undone must not be read. */
+    private static void undonePassengers() {
+        LiftScheduler absent = Check.undone("call 5 6 at 9;");
+        LiftScheduler waiting = Check.undone("call 5 6; run 1;");
+        LiftScheduler riding = Check.undone("call 0 6; run 1;");
+        Check.same("queueAt", waiting.queueAt(5, 0), NONE);
+        Check.same("waitingAt", waiting.waitingAt(5), 0);
+        Check.same("firstWaiting", waiting.firstWaiting(), NONE);
+        Check.same("ridingTo", riding.ridingTo(6), 0);
+        Check.same("busiestOrigin", riding.busiestOrigin(), NONE);
+        Check.same("passengersBetween", riding.passengersBetween(0, 6), 0);
+        Check.same("nextArrival", absent.nextArrival(), NONE);
+        Check.same("counts", counts(absent) + counts(waiting) + counts(riding),
+                "0 0 0 0 0 0 0 0 0 0 0 0 ");
+        LiftScheduler full = new LiftScheduler();
+        Check.play(full, "repeat 8 (call 1 2; call 0 9; call 0 8; call 3 4; call 9 0 at 99;);");
+        full.run(3);
+        Check.same("all rows in use", full.passengerCount(), 40);
+        Check.same("queueAt of 40", full.queueAt(0, 99), NONE);
+        Check.same("passengersBetween of 40", full.passengersBetween(0, 9), 8);
+        Check.same("ridingTo of 40", full.ridingTo(9) + full.ridingTo(8), 4);
+        Check.same("nextArrival of 40", full.nextArrival(), 99);
+        Check.same("busiestOrigin of 40", full.busiestOrigin(), 0);
     }
 
     private static void noSuchFloor() {
