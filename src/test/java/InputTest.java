@@ -106,6 +106,12 @@ public final class InputTest {
         Check.wrongState("slot 1 is empty", () -> lift.restore(1));
         Check.same("slot 0 was empty", lift.save(0), true);
         Check.same("output stays", Check.output(lift, 1), "d");
+        Check.same("nobody is left to ride", lift.isFinished(), true);
+        Check.play(lift, "call 0 4; call 0 4; run 1;");
+        Check.same("two riders", lift.isFull(), true);
+        Check.type(lift, "lift 5 2 first;");
+        Check.same("load again", lift.load(), 0);
+        Check.same("no riders", lift.isFull(), false);
     }
 
     private static void failedLoading() {
