@@ -1,6 +1,9 @@
 /** Counts wrong answers of one test and prints them; fills the input buffer with texts. */
 final class Check {
+    private static final String NEW_STATE = "10 4 2 0 0 true 0 0 0 0:";
     private static int wrong = 0;
+    // What stands before each wrong answer: the sentence of the document that is tested.
+    private static String sentence = "";
 
     private Check() {
     }
@@ -56,7 +59,18 @@ final class Check {
 
     static void wrong(String line) {
         wrong++;
-        System.out.println(line);
+        System.out.println(sentence + line);
+    }
+
+    /** A test of one sentence of the document; what it throws is a wrong answer too. */
+    static void holds(String promiseAndSentence, Runnable test) {
+        sentence = "\"" + promiseAndSentence + "\" does not hold: ";
+        try {
+            test.run();
+        } catch (RuntimeException thrown) {
+            wrong("the test ended with " + thrown);
+        }
+        sentence = "";
     }
 
     /** Ends the test, with exit code 1 if an answer was wrong. */
@@ -115,6 +129,23 @@ final class Check {
         return lift.play();
     }
 
+    /** A new object must refuse to load the text, and change nothing but buffer and error. */
+    static void errorOf(String what, String text, int code, int position) {
+        LiftScheduler lift = new LiftScheduler();
+        same(what + " fits in the buffer", type(lift, text), true);
+        wrongArgument(what, lift::load);
+        same(what + ": code", lift.parseError(), code);
+        same(what + ": position", lift.parseErrorPosition(), position);
+        same(what + ": state", state(lift), NEW_STATE);
+        holdsBytes(what, lift, 0);
+    }
+
+    /** The number of bytes in the buffer, which stay as they are. */
+    static void holdsBytes(String what, LiftScheduler lift, int bytes) {
+        same(what + ": no more than " + bytes + " bytes", lift.truncate(bytes + 1), false);
+        same(what + ": no less than " + bytes + " bytes", lift.truncate(bytes), true);
+    }
+
     static String output(LiftScheduler lift, int length) {
         StringBuilder text = new StringBuilder();
         for (int i = 0; i < length; i++) {
@@ -135,6 +166,18 @@ final class Check {
             text.append(' ').append(lift.originOf(i)).append('>').append(lift.destinationOf(i))
                     .append('@').append(lift.arrivalOf(i)).append('/').append(lift.boardedAt(i))
                     .append('/').append(lift.leftAt(i));
+        }
+        return text.toString();
+    }
+
+    /** The state and, behind it, what an undo, a restore or a failing call must leave alone. */
+    static String everything(LiftScheduler lift) {
+        StringBuilder text = new StringBuilder(state(lift));
+        text.append(" error ").append(lift.parseError()).append(" at ")
+                .append(lift.parseErrorPosition()).append(" changes ").append(lift.undoDepth())
+                .append(" output ");
+        for (int i = 0; lift.outputByte(i) != LiftScheduler.NONE; i++) {
+            text.append((char) lift.outputByte(i));
         }
         return text.toString();
     }

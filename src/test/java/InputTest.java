@@ -175,20 +175,20 @@ public final class InputTest {
                 "10 4 2 0 0 true 0 0 0 0:");
         Check.same("leading zeros", Check.state(Check.loaded("lift 010 004 sweep;call 00 001;")),
                 "10 4 2 0 0 true 0 0 0 0: 0>1@0/-1/-1");
-        errorOf("words run together", "lift 10 4 sweep;call 2 4 at5;runs 3;", 1, 29);
-        errorOf("a word that is none", "lift 10 4 sweepz;", 1, 10);
-        errorOf("a word that is none before", "alift 10 4 sweep;", 1, 0);
-        errorOf("500 tokens", ";".repeat(500), 1, 0);
-        errorOf("500 tokens behind each other", HEAD + "run1;".repeat(96) + "();(", 1, 496);
-        errorOf("word in two", "li ft 10 4 sweep;", 1, 0);
-        errorOf("number in two", "lift 1 0 4 sweep;", 2, 5);
-        errorOf("carriage return", "lift 10 4 sweep;\r", 1, 16);
-        errorOf("byte 0", "lift 10 4 sweep;\0", 1, 16);
-        errorOf("byte 255", "lift\u00ff", 1, 4);
-        errorOf("great letter", "Lift 10 4 sweep;", 1, 0);
-        errorOf("great letter behind", "lifT 10 4 sweep;", 1, 0);
-        errorOf("minus", "lift 10 4 sweep; call -1 2;", 1, 22);
-        errorOf("comma", "lift 10,4 sweep;", 1, 7);
+        Check.errorOf("words run together", "lift 10 4 sweep;call 2 4 at5;runs 3;", 1, 29);
+        Check.errorOf("a word that is none", "lift 10 4 sweepz;", 1, 10);
+        Check.errorOf("a word that is none before", "alift 10 4 sweep;", 1, 0);
+        Check.errorOf("500 tokens", ";".repeat(500), 1, 0);
+        Check.errorOf("500 tokens behind each other", HEAD + "run1;".repeat(96) + "();(", 1, 496);
+        Check.errorOf("word in two", "li ft 10 4 sweep;", 1, 0);
+        Check.errorOf("number in two", "lift 1 0 4 sweep;", 2, 5);
+        Check.errorOf("carriage return", "lift 10 4 sweep;\r", 1, 16);
+        Check.errorOf("byte 0", "lift 10 4 sweep;\0", 1, 16);
+        Check.errorOf("byte 255", "lift\u00ff", 1, 4);
+        Check.errorOf("great letter", "Lift 10 4 sweep;", 1, 0);
+        Check.errorOf("great letter behind", "lifT 10 4 sweep;", 1, 0);
+        Check.errorOf("minus", "lift 10 4 sweep; call -1 2;", 1, 22);
+        Check.errorOf("comma", "lift 10,4 sweep;", 1, 7);
     }
 
     private static void commands() {
@@ -237,82 +237,82 @@ public final class InputTest {
         Check.same("nine ticks", lift.time(), 9);
         Check.same("once", Check.play(lift, "repeat 1(reverse;);"), 1);
         Check.same("empty", Check.play(lift, "repeat 5 ( ) ;"), 0);
-        errorOf("in the second round", HEAD + "repeat 2 (call 0 1 at 0; run 1;);", 2, 38);
-        errorOf("second round before what follows", HEAD + "repeat 2 (call 0 1 at 0; run 1;)", 2, 38);
-        errorOf("third round", HEAD + "repeat 3 (run 400;);", 4, 30);
-        errorOf("expect in the second round", HEAD + "repeat 2 (expect time 0; run 1;);", 5, 26);
-        errorOf("wrong token in the first round", HEAD + "repeat 3 (run 999; foo);", 1, 35);
-        errorOf("call in the fifth round", HEAD + "repeat 5 (call 0 1; call 0 1; call 0 1; call 0 1;"
+        Check.errorOf("in the second round", HEAD + "repeat 2 (call 0 1 at 0; run 1;);", 2, 38);
+        Check.errorOf("second round before what follows", HEAD + "repeat 2 (call 0 1 at 0; run 1;)", 2, 38);
+        Check.errorOf("third round", HEAD + "repeat 3 (run 400;);", 4, 30);
+        Check.errorOf("expect in the second round", HEAD + "repeat 2 (expect time 0; run 1;);", 5, 26);
+        Check.errorOf("wrong token in the first round", HEAD + "repeat 3 (run 999; foo);", 1, 35);
+        Check.errorOf("call in the fifth round", HEAD + "repeat 5 (call 0 1; call 0 1; call 0 1; call 0 1;"
                 + "call 0 1; call 0 1; call 0 1; call 0 1; call 0 1;);", 3, 65);
-        errorOf("no repeat in repeat", HEAD + "repeat 2 (repeat 2 (););", 1, 26);
-        errorOf("times 0", HEAD + "repeat 0 ();", 2, 23);
-        errorOf("times 10", HEAD + "repeat 10 ();", 2, 23);
-        errorOf("no times", HEAD + "repeat ();", 1, 23);
-        errorOf("no bracket", HEAD + "repeat 2 run 1;", 1, 25);
-        errorOf("no closing bracket", HEAD + "repeat 2 (run 1;", 1, 32);
-        errorOf("no semicolon in the brackets", HEAD + "repeat 2 (run 1);", 1, 31);
-        errorOf("no semicolon behind", HEAD + "repeat 2 (run 1;) run 1;", 1, 34);
-        errorOf("only a bracket", HEAD + ");", 1, 16);
-        errorOf("empty command in the brackets", HEAD + "repeat 2 (;);", 1, 26);
+        Check.errorOf("no repeat in repeat", HEAD + "repeat 2 (repeat 2 (););", 1, 26);
+        Check.errorOf("times 0", HEAD + "repeat 0 ();", 2, 23);
+        Check.errorOf("times 10", HEAD + "repeat 10 ();", 2, 23);
+        Check.errorOf("no times", HEAD + "repeat ();", 1, 23);
+        Check.errorOf("no bracket", HEAD + "repeat 2 run 1;", 1, 25);
+        Check.errorOf("no closing bracket", HEAD + "repeat 2 (run 1;", 1, 32);
+        Check.errorOf("no semicolon in the brackets", HEAD + "repeat 2 (run 1);", 1, 31);
+        Check.errorOf("no semicolon behind", HEAD + "repeat 2 (run 1;) run 1;", 1, 34);
+        Check.errorOf("only a bracket", HEAD + ");", 1, 16);
+        Check.errorOf("empty command in the brackets", HEAD + "repeat 2 (;);", 1, 26);
     }
 
     private static void wrongTokens() {
-        errorOf("only spaces", "  \n ", 1, 4);
-        errorOf("ends in the head", "lift 10 4 ", 1, 10);
-        errorOf("ends before the semicolon", "lift 10 4 sweep", 1, 15);
-        errorOf("ends in a command", HEAD + "call 1 2 at  ", 1, 29);
-        errorOf("other first word", "call 10 4 sweep;", 1, 0);
-        errorOf("a word for the floors", "lift ten 4 sweep;", 1, 5);
-        errorOf("a word for the capacity", "lift 10 sweep;", 1, 8);
-        errorOf("a number for the policy", "lift 10 4 2;", 1, 10);
-        errorOf("no such policy", "lift 10 4 second;", 1, 10);
-        errorOf("a counter is no policy", "lift 10 4 done;", 1, 10);
-        errorOf("a number more", "lift 10 4 sweep 2;", 1, 16);
-        errorOf("a long number where none may stand", HEAD + "1234;", 1, 16);
-        errorOf("empty command", HEAD + ";", 1, 16);
-        errorOf("no such command", HEAD + "walk 3;", 1, 16);
-        errorOf("a policy is no command", HEAD + "sweep;", 1, 16);
-        errorOf("call without numbers", HEAD + "call;", 1, 20);
-        errorOf("call without destination", HEAD + "call 3;", 1, 22);
-        errorOf("call without at", HEAD + "call 3 4 5;", 1, 25);
-        errorOf("call at nothing", HEAD + "call 3 4 at;", 1, 27);
-        errorOf("run without ticks", HEAD + "run;", 1, 19);
-        errorOf("finish with ticks", HEAD + "finish 3;", 1, 23);
-        errorOf("until without counter", HEAD + "until 3;", 1, 22);
-        errorOf("until a wrong counter", HEAD + "until capacity 3;", 1, 22);
-        errorOf("until without value", HEAD + "until done;", 1, 26);
-        errorOf("reverse with a number", HEAD + "reverse 1;", 1, 24);
-        errorOf("policy without name", HEAD + "policy;", 1, 22);
-        errorOf("capacity without number", HEAD + "capacity;", 1, 24);
-        errorOf("expect without counter", HEAD + "expect;", 1, 22);
-        errorOf("expect without value", HEAD + "expect time;", 1, 27);
-        errorOf("expect a word", HEAD + "expect time time;", 1, 28);
-        errorOf("two semicolons", HEAD + "run 1;;", 1, 22);
-        errorOf("a 41st call where none may stand", HEAD + calls(40) + "run 1 call 0 1;", 1, 382);
+        Check.errorOf("only spaces", "  \n ", 1, 4);
+        Check.errorOf("ends in the head", "lift 10 4 ", 1, 10);
+        Check.errorOf("ends before the semicolon", "lift 10 4 sweep", 1, 15);
+        Check.errorOf("ends in a command", HEAD + "call 1 2 at  ", 1, 29);
+        Check.errorOf("other first word", "call 10 4 sweep;", 1, 0);
+        Check.errorOf("a word for the floors", "lift ten 4 sweep;", 1, 5);
+        Check.errorOf("a word for the capacity", "lift 10 sweep;", 1, 8);
+        Check.errorOf("a number for the policy", "lift 10 4 2;", 1, 10);
+        Check.errorOf("no such policy", "lift 10 4 second;", 1, 10);
+        Check.errorOf("a counter is no policy", "lift 10 4 done;", 1, 10);
+        Check.errorOf("a number more", "lift 10 4 sweep 2;", 1, 16);
+        Check.errorOf("a long number where none may stand", HEAD + "1234;", 1, 16);
+        Check.errorOf("empty command", HEAD + ";", 1, 16);
+        Check.errorOf("no such command", HEAD + "walk 3;", 1, 16);
+        Check.errorOf("a policy is no command", HEAD + "sweep;", 1, 16);
+        Check.errorOf("call without numbers", HEAD + "call;", 1, 20);
+        Check.errorOf("call without destination", HEAD + "call 3;", 1, 22);
+        Check.errorOf("call without at", HEAD + "call 3 4 5;", 1, 25);
+        Check.errorOf("call at nothing", HEAD + "call 3 4 at;", 1, 27);
+        Check.errorOf("run without ticks", HEAD + "run;", 1, 19);
+        Check.errorOf("finish with ticks", HEAD + "finish 3;", 1, 23);
+        Check.errorOf("until without counter", HEAD + "until 3;", 1, 22);
+        Check.errorOf("until a wrong counter", HEAD + "until capacity 3;", 1, 22);
+        Check.errorOf("until without value", HEAD + "until done;", 1, 26);
+        Check.errorOf("reverse with a number", HEAD + "reverse 1;", 1, 24);
+        Check.errorOf("policy without name", HEAD + "policy;", 1, 22);
+        Check.errorOf("capacity without number", HEAD + "capacity;", 1, 24);
+        Check.errorOf("expect without counter", HEAD + "expect;", 1, 22);
+        Check.errorOf("expect without value", HEAD + "expect time;", 1, 27);
+        Check.errorOf("expect a word", HEAD + "expect time time;", 1, 28);
+        Check.errorOf("two semicolons", HEAD + "run 1;;", 1, 22);
+        Check.errorOf("a 41st call where none may stand", HEAD + calls(40) + "run 1 call 0 1;", 1, 382);
     }
 
     private static void wrongNumbers() {
-        errorOf("floors 1", "lift 1 4 sweep;", 2, 5);
-        errorOf("floors 21", "lift 21 4 sweep;", 2, 5);
-        errorOf("floors of four digits", "lift 0010 4 sweep;", 2, 5);
-        errorOf("floors of very many digits", "lift 99999999999999999999 4 sweep;", 2, 5);
-        errorOf("floors that wrap round", "lift 4294967306 4 sweep;", 2, 5);
-        errorOf("capacity 0", "lift 10 0 sweep;", 2, 8);
-        errorOf("capacity 9", "lift 10 9 sweep;", 2, 8);
-        errorOf("origin 10", HEAD + "call 10 2;", 2, 21);
-        errorOf("destination 10", HEAD + "call 2 10;", 2, 23);
-        errorOf("destination is the origin", HEAD + "call 2 2;", 2, 23);
-        errorOf("floors of a small building", "lift 2 1 first; call 0 2;", 2, 23);
-        errorOf("at 1000", HEAD + "call 2 3 at 1000;", 2, 28);
-        errorOf("at a time before", HEAD + "run 5; call 2 3 at 4;", 2, 35);
-        errorOf("run 0", HEAD + "run 0;", 2, 20);
-        errorOf("run 1000", HEAD + "run 1000;", 2, 20);
-        errorOf("run of four digits", HEAD + "run 0001;", 2, 20);
-        errorOf("until 1000", HEAD + "until time 1000;", 2, 27);
-        errorOf("capacity command 0", HEAD + "capacity 0;", 2, 25);
-        errorOf("capacity command 9", HEAD + "capacity 9;", 2, 25);
-        errorOf("expect 1000", HEAD + "expect time 1000;", 2, 28);
-        errorOf("number before the end", HEAD + "run 0", 2, 20);
+        Check.errorOf("floors 1", "lift 1 4 sweep;", 2, 5);
+        Check.errorOf("floors 21", "lift 21 4 sweep;", 2, 5);
+        Check.errorOf("floors of four digits", "lift 0010 4 sweep;", 2, 5);
+        Check.errorOf("floors of very many digits", "lift 99999999999999999999 4 sweep;", 2, 5);
+        Check.errorOf("floors that wrap round", "lift 4294967306 4 sweep;", 2, 5);
+        Check.errorOf("capacity 0", "lift 10 0 sweep;", 2, 8);
+        Check.errorOf("capacity 9", "lift 10 9 sweep;", 2, 8);
+        Check.errorOf("origin 10", HEAD + "call 10 2;", 2, 21);
+        Check.errorOf("destination 10", HEAD + "call 2 10;", 2, 23);
+        Check.errorOf("destination is the origin", HEAD + "call 2 2;", 2, 23);
+        Check.errorOf("floors of a small building", "lift 2 1 first; call 0 2;", 2, 23);
+        Check.errorOf("at 1000", HEAD + "call 2 3 at 1000;", 2, 28);
+        Check.errorOf("at a time before", HEAD + "run 5; call 2 3 at 4;", 2, 35);
+        Check.errorOf("run 0", HEAD + "run 0;", 2, 20);
+        Check.errorOf("run 1000", HEAD + "run 1000;", 2, 20);
+        Check.errorOf("run of four digits", HEAD + "run 0001;", 2, 20);
+        Check.errorOf("until 1000", HEAD + "until time 1000;", 2, 27);
+        Check.errorOf("capacity command 0", HEAD + "capacity 0;", 2, 25);
+        Check.errorOf("capacity command 9", HEAD + "capacity 9;", 2, 25);
+        Check.errorOf("expect 1000", HEAD + "expect time 1000;", 2, 28);
+        Check.errorOf("number before the end", HEAD + "run 0", 2, 20);
         LiftScheduler lift = new LiftScheduler();
         Check.same("at the present time", Check.play(lift, "run 5; call 2 3 at 5;"), 2);
         Check.same("at 999", Check.play(lift, "call 2 3 at 999;"), 1);
@@ -321,48 +321,38 @@ public final class InputTest {
 
     private static void tooManyCalls() {
         Check.same("40 calls", Check.loaded(HEAD + calls(40)).passengerCount(), 40);
-        errorOf("41 calls", HEAD + calls(41), 3, 376);
-        errorOf("41st call with wrong numbers", HEAD + calls(40) + "call 77", 3, 376);
-        errorOf("wrong token before", HEAD + calls(40) + "cal 0 1;", 1, 376);
+        Check.errorOf("41 calls", HEAD + calls(41), 3, 376);
+        Check.errorOf("41st call with wrong numbers", HEAD + calls(40) + "call 77", 3, 376);
+        Check.errorOf("wrong token before", HEAD + calls(40) + "cal 0 1;", 1, 376);
     }
 
     private static void impossible() {
-        errorOf("run beyond 999", HEAD + "run 999; run 1;", 4, 29);
-        errorOf("run without semicolon", HEAD + "run 999; run 1", 4, 29);
-        errorOf("until never", HEAD + "until riding 1;", 4, 29);
-        errorOf("until later than 999", HEAD + "call 0 9 at 990; until done 1;", 4, 44);
-        errorOf("capacity below the riders", HEAD + "call 0 9; call 0 8; run 1; capacity 1;", 4, 52);
+        Check.errorOf("run beyond 999", HEAD + "run 999; run 1;", 4, 29);
+        Check.errorOf("run without semicolon", HEAD + "run 999; run 1", 4, 29);
+        Check.errorOf("until never", HEAD + "until riding 1;", 4, 29);
+        Check.errorOf("until later than 999", HEAD + "call 0 9 at 990; until done 1;", 4, 44);
+        Check.errorOf("capacity below the riders", HEAD + "call 0 9; call 0 8; run 1; capacity 1;", 4, 52);
         Check.same("capacity of the riders",
                 Check.loaded(HEAD + "call 0 9; call 0 8; run 1; capacity 2;").isFull(), true);
         Check.same("until at the last tick",
                 Check.loaded(HEAD + "call 0 9 at 988; until done 1;").time(), 999);
-        errorOf("until one tick too late", HEAD + "call 0 9 at 989; until done 1;", 4, 44);
+        Check.errorOf("until one tick too late", HEAD + "call 0 9 at 989; until done 1;", 4, 44);
     }
 
     private static void notAsExpected() {
-        errorOf("expect less", HEAD + "run 5; expect time 4;", 5, 23);
-        errorOf("expect more", HEAD + "run 5; expect time 6;", 5, 23);
-        errorOf("expect before the semicolon", HEAD + "expect time 6 foo", 5, 16);
-        errorOf("expect that holds", HEAD + "expect time 0 foo", 1, 30);
-        errorOf("expect of a wrong value", HEAD + "expect time 1234;", 2, 28);
-        errorOf("expect done", HEAD + "expect done 1;", 5, 16);
-        errorOf("expect riding", HEAD + "expect riding 1;", 5, 16);
-        errorOf("expect waiting", HEAD + "expect waiting 1;", 5, 16);
-        errorOf("expect floor", HEAD + "expect floor 1;", 5, 16);
-        errorOf("expect distance", HEAD + "expect distance 1;", 5, 16);
+        Check.errorOf("expect less", HEAD + "run 5; expect time 4;", 5, 23);
+        Check.errorOf("expect more", HEAD + "run 5; expect time 6;", 5, 23);
+        Check.errorOf("expect before the semicolon", HEAD + "expect time 6 foo", 5, 16);
+        Check.errorOf("expect that holds", HEAD + "expect time 0 foo", 1, 30);
+        Check.errorOf("expect of a wrong value", HEAD + "expect time 1234;", 2, 28);
+        Check.errorOf("expect done", HEAD + "expect done 1;", 5, 16);
+        Check.errorOf("expect riding", HEAD + "expect riding 1;", 5, 16);
+        Check.errorOf("expect waiting", HEAD + "expect waiting 1;", 5, 16);
+        Check.errorOf("expect floor", HEAD + "expect floor 1;", 5, 16);
+        Check.errorOf("expect distance", HEAD + "expect distance 1;", 5, 16);
     }
 
     private static String calls(int number) {
         return "call 0 1;".repeat(number);
-    }
-
-    private static void errorOf(String what, String text, int code, int position) {
-        LiftScheduler lift = new LiftScheduler();
-        Check.same(what + " fits in the buffer", Check.type(lift, text), true);
-        Check.wrongArgument(what, lift::load);
-        Check.same(what + ": code", lift.parseError(), code);
-        Check.same(what + ": position", lift.parseErrorPosition(), position);
-        Check.same(what + ": state", Check.state(lift), "10 4 2 0 0 true 0 0 0 0:");
-        Check.same(what + ": buffer", lift.truncate(1), false);
     }
 }
