@@ -105,8 +105,10 @@ public final class BoundaryInputTest {
         oneByteEach('A');
     }
 
+    /** Without the sign bit the second one is a space. */
     private static void bytesOver127() {
         oneByteEach(0x80);
+        oneByteEach(0xa0);
         oneByteEach(0xff);
     }
 
@@ -250,12 +252,16 @@ public final class BoundaryInputTest {
     }
 
     private static void loadReplacesAll() {
-        LiftScheduler lift = Check.loaded("lift 20 8 first; call 19 3; call 2 3; finish; reverse;");
+        LiftScheduler lift = Check.loaded("lift 20 1 sweep; run 3; call 9 3; finish; call 0 4; call 4 0; run 5;");
+        Check.same("before", Check.state(lift), "20 1 2 25 1 true 19 3 3 2:"
+                + " 9>3@3/12/19 0>4@20/23/-1 4>0@20/-1/-1");
+        Check.same("riders before", lift.isFull(), true);
         Check.type(lift, "lift 2 1 nearest;");
         lift.load();
         Check.same("state", Check.state(lift), "2 1 1 0 0 true 0 0 0 0:");
         Check.same("riders", lift.isFull(), false);
         Check.same("all are done", lift.isFinished(), true);
+        Check.same("nobody is done", lift.countStatus(LiftScheduler.DONE), 0);
     }
 
     private static void noUndoAfterLoad() {

@@ -476,8 +476,8 @@ public final class BoundaryLiftTest {
         String before = Check.everything(lift);
         for (int policy = FIRST; policy <= SWEEP; policy++) {
             lift.targetBy(policy);
+            Check.same("all, after " + policy, Check.everything(lift), before);
         }
-        Check.same("all", Check.everything(lift), before);
     }
 
     private static void targetOfOtherPolicies() {

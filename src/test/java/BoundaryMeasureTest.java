@@ -314,14 +314,17 @@ public final class BoundaryMeasureTest {
             lift.writeBuilding();
             lift.append(0, 0, 0, 0, 0);
             String before = Check.everything(lift);
+            String state = Check.state(lift);
             lift.ticksToFinish();
             lift.bestPolicy();
+            lift.ticksWithCapacity(8);
+            Check.same("state", Check.state(lift), state);
             for (int policy = FIRST; policy <= SWEEP; policy++) {
                 lift.ticksWithPolicy(policy);
                 lift.waitWithPolicy(policy);
                 lift.longestWaitWithPolicy(policy);
+                Check.same("state, after " + policy, Check.state(lift), state);
             }
-            lift.ticksWithCapacity(8);
             for (int i = 0; i < lift.passengerCount(); i++) {
                 lift.expectedAt(i);
             }

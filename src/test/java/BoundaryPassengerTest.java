@@ -447,10 +447,11 @@ public final class BoundaryPassengerTest {
         Check.same("not to the origin", lift.ridingTo(2), 0);
         lift.run(5);
         Check.same("done", lift.ridingTo(6), 0);
+        Check.same("undone", Check.undone("call 0 6; run 1;").ridingTo(6), 0);
     }
 
     private static void leastAndMostRiding() {
-        LiftScheduler lift = Check.loaded("lift 10 8 sweep;" + "call 0 9;".repeat(12));
+        LiftScheduler lift = Check.loaded("lift 10 8 sweep;" + "call 0 9;".repeat(40));
         Check.same("nobody yet", lift.ridingTo(9), 0);
         lift.run(1);
         Check.same("8 to 9", lift.ridingTo(9), 8);
@@ -468,9 +469,12 @@ public final class BoundaryPassengerTest {
     }
 
     private static void busiestOfEachStatus() {
-        LiftScheduler lift = Check.loaded(HEAD + "call 0 1; call 0 9; call 0 9 at 99; call 7 6; call 7 6 at 98;"
-                + "run 3;");
-        Check.same("done, riding and absent ones", lift.busiestOrigin(), 0);
+        // Two of the status from floor 0, one of another status from floor 5.
+        Check.same("absent", Check.loaded(HEAD + "call 0 9 at 9; call 0 9 at 9; call 5 9;").busiestOrigin(), 0);
+        String two = HEAD + "call 0 9; call 0 9;";
+        Check.same("waiting", Check.loaded(two + "call 5 9 at 9;").busiestOrigin(), 0);
+        Check.same("riding", Check.loaded(two + "call 5 9 at 9; run 1;").busiestOrigin(), 0);
+        Check.same("done", Check.loaded(two + "finish; call 5 9;").busiestOrigin(), 0);
     }
 
     private static void noBusiest() {

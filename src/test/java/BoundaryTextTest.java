@@ -33,6 +33,7 @@ public final class BoundaryTextTest {
         Check.holds("the lowest code is reported: 1 before 5", BoundaryTextTest::placeBeforeExpect);
         Check.holds("the lowest code is reported: 2 before 4", BoundaryTextTest::rangeBeforeState);
         Check.holds("1: the token is not allowed at this place", BoundaryTextTest::notAtThisPlace);
+        Check.holds("1: a part that must not be left out", BoundaryTextTest::partsLeftOut);
         Check.holds("3: the word call of a 41st passenger", BoundaryTextTest::call41);
         Check.holds("3: in a later round of repeat", BoundaryTextTest::call41InRepeat);
         Check.holds("4: the ticks of run if the time would be greater than 999", BoundaryTextTest::runBeyond);
@@ -222,6 +223,23 @@ public final class BoundaryTextTest {
         Check.errorOf("a bracket twice", HEAD + "repeat 1 (run 1;)); ", 1, 33);
         Check.errorOf("finish with a number", HEAD + "finish 1;", 1, 23);
         Check.errorOf("reverse with a number", HEAD + "reverse 1;", 1, 24);
+    }
+
+    /** The semicolon comes too early: the wrong token is itself one that may end a command. */
+    private static void partsLeftOut() {
+        for (String head : new String[] {"lift", "lift 10", "lift 10 4"}) {
+            Check.errorOf(head, head + ";", 1, head.length());
+        }
+        String[] commands = {"call", "call 3", "call 3 4 at", "run", "until", "until time", "policy",
+            "capacity", "expect", "expect time", "repeat", "repeat 2"};
+        for (String command : commands) {
+            Check.errorOf(command, HEAD + command + ";", 1, HEAD.length() + command.length());
+            Check.errorOf(command + " and an end", HEAD + command, 1, HEAD.length() + command.length());
+        }
+        for (String command : new String[] {"call", "run", "until time", "policy", "expect"}) {
+            Check.errorOf(command + " in brackets", HEAD + "repeat 2 (" + command + ";);", 1,
+                    HEAD.length() + 10 + command.length());
+        }
     }
 
     private static void call41() {
