@@ -1073,8 +1073,8 @@ public final class LiftScheduler {
         /** Performs all commands from the next token to the end. */
         boolean performCommands(Simulation target) {
             simulation = target;
-            for (int n = 0; n < MOST_TOKENS && kinds[at] != Kind.END; n++) {
-                boolean good = kinds[at] == Kind.REPEAT ? performRepeat() : performSimple();
+            for (int n = 0; n < MOST_TOKENS && nextKind() != Kind.END; n++) {
+                boolean good = nextKind() == Kind.REPEAT ? performRepeat() : performSimple();
                 if (!good || !take(Kind.SEMICOLON)) {
                     return false;
                 }
@@ -1091,7 +1091,7 @@ public final class LiftScheduler {
             int body = at;
             for (int round = 0; round < times; round++) {
                 at = body;
-                for (int n = 0; n < MOST_TOKENS && kinds[at] != Kind.CLOSE; n++) {
+                for (int n = 0; n < MOST_TOKENS && nextKind() != Kind.CLOSE; n++) {
                     if (!performSimple() || !take(Kind.SEMICOLON)) {
                         return false;
                     }
@@ -1102,7 +1102,7 @@ public final class LiftScheduler {
 
         private boolean performSimple() {
             executed++;
-            switch (kinds[at]) {
+            switch (nextKind()) {
                 case CALL:
                     return performCall();
                 case RUN:
@@ -1145,7 +1145,7 @@ public final class LiftScheduler {
                 return fail(WRONG_NUMBER, at - 1);
             }
             int arrival = simulation.time;
-            if (kinds[at] == Kind.AT) {
+            if (nextKind() == Kind.AT) {
                 at++;
                 arrival = takeNumber(simulation.time, LAST_TIME);
                 if (arrival == NONE) {
@@ -1173,7 +1173,7 @@ public final class LiftScheduler {
 
         private boolean performUntil() {
             at++;
-            Kind counter = kinds[at];
+            Kind counter = nextKind();
             int value = takeCounterAndValue();
             if (value == NONE) {
                 return false;
@@ -1213,7 +1213,7 @@ public final class LiftScheduler {
         private boolean performExpect() {
             int word = at;
             at++;
-            Kind counter = kinds[at];
+            Kind counter = nextKind();
             int value = takeCounterAndValue();
             if (value == NONE) {
                 return false;
@@ -1241,8 +1241,12 @@ public final class LiftScheduler {
             }
         }
 
+        private Kind nextKind() {
+            return at < tokens ? kinds[at] : Kind.END;
+        }
+
         private boolean take(Kind kind) {
-            if (kinds[at] != kind) {
+            if (nextKind() != kind) {
                 return fail(WRONG_TOKEN, at);
             }
             at++;
@@ -1251,7 +1255,7 @@ public final class LiftScheduler {
 
         /** Answers NONE if the token is no number or out of range. */
         private int takeNumber(int least, int most) {
-            if (kinds[at] != Kind.NUMBER) {
+            if (nextKind() != Kind.NUMBER) {
                 fail(WRONG_TOKEN, at);
                 return NONE;
             }
@@ -1267,7 +1271,7 @@ public final class LiftScheduler {
         /** Answers NONE if the token names no policy. */
         private int takePolicy() {
             int policy = NONE;
-            switch (kinds[at]) {
+            switch (nextKind()) {
                 case FIRST:
                     policy = FIRST_COME;
                     break;
@@ -1287,7 +1291,7 @@ public final class LiftScheduler {
 
         /** Answers the value; NONE if one of the two tokens is wrong. */
         private int takeCounterAndValue() {
-            if (!kinds[at].isCounter()) {
+            if (!nextKind().isCounter()) {
                 fail(WRONG_TOKEN, at);
                 return NONE;
             }
@@ -1297,7 +1301,9 @@ public final class LiftScheduler {
 
         private boolean fail(int code, int token) {
             errorCode = code;
-            errorPosition = starts[token];
+            if (token >= 0 && token < tokens) {
+                errorPosition = starts[token];
+            }
             return false;
         }
     }
